@@ -62,6 +62,10 @@ public final class LanguageTest {
             }
         }
         CHECKS.holds("the face is the document's: " + open, open.equals(new TreeSet<>(FACE)));
+        for (Method method : PaidInDays.class.getDeclaredMethods()) {
+            boolean hidden = Modifier.isPrivate(method.getModifiers());
+            CHECKS.holds("no private name of the face: " + method.getName(), !hidden || !names.contains(method.getName()));
+        }
         CHECKS.due("constructors", PaidInDays.class.getDeclaredConstructors().length, 1);
         CHECKS.holds("the class is final", Modifier.isFinal(PaidInDays.class.getModifiers()));
         for (Field field : PaidInDays.class.getDeclaredFields()) {

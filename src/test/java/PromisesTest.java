@@ -408,6 +408,10 @@ public final class PromisesTest {
         due("14: one wage", Checks.told("wf0000;wm0001;").still(), 1);
         PaidInDays x = Checks.told("ww0003;wb2064;");
         due("14: for ever", x.still(), -9);
+        PaidInDays late = Checks.told("wb4092;wh6075;wm9125;");
+        due("14: the last wage on the 61st DAY", late.still(), -9);
+        late.days(1);
+        due("14: the last wage on the 60th DAY", late.still(), 60);
         due("14: DAY stays", x.count(1), 0);
         due("14: WAGES stay", x.count(2), 0);
     }
@@ -530,6 +534,7 @@ public final class PromisesTest {
         due("22: OFF stays", x.worker(0, 2), 0);
         due("22: both", Checks.told("wm0000;wm0000;t019;t119;").fewest(1), 3);
         due("22: one of them", Checks.told("wm0000;wm0000;t119;").fewest(1), 2);
+        due("22: of several the least", Checks.told("wm8104;wf7075;ww3018;t016;t116;").fewest(10), 1);
         due("22: fallen already", Checks.told("wm0000;t020;").fewest(0), -9);
         due("22: fallen already, later too", Checks.told("wm0127;t020;").fewest(20), -9);
         due("22: fewest(-1)", x.fewest(-1), -4);
@@ -572,6 +577,9 @@ public final class PromisesTest {
         due("25: he takes, the other lets be", taker.two(0, 1, 2), 1);
         due("25: the other way round", taker.two(1, 0, 2), 10);
         due("25: OFF stays", taker.worker(0, 2), 0);
+        // The first's: 0, 0, 1, -2 for 00, 01, 10, 11; the other's: 3, 1, 0, 1.
+        due("25: none", Checks.told("wt0040;wb2096;wh7047;").two(0, 1, 3), -9);
+        due("25: both take", Checks.told("ww1116;ww1010;wh0016;").two(0, 1, 3), 0);
         due("25: two(0, 0, -1)", x.two(0, 0, -1), -1);
         due("25: two(0, 2, -1)", x.two(0, 2, -1), -1);
         due("25: two(-1, 0, 31)", x.two(-1, 0, 31), -1);
@@ -594,6 +602,9 @@ public final class PromisesTest {
         due("26: now", x.fever(0, 0, 2, 10, 0), 1);
         due("26: not now", x.fever(0, 0, 2, 11, 0), 0);
         due("26: nothing changes", x.worker(0, 3) * 1000 + x.worker(1, 2), 10004);
+        PaidInDays second = Checks.told("ww3000;wm0008;t010;");
+        due("26: no wage on the second DAY, DUE goes on", second.fever(0, 3, 5, 13, 0), 1);
+        due("26: no wage on the second DAY, below", second.fever(0, 3, 5, 13, 1), 5);
         // The foreman is IN on the seventh DAY by fever on the six before, the other off by fever on all seven.
         PaidInDays week = Checks.told("wf0000;wm0001;t010;");
         due("26: six DAYS", week.fever(0, 7, 20, 17, 0), 1);
@@ -713,8 +724,15 @@ public final class PromisesTest {
         due("32: OFF 115", x.lots(1, 0, 0), 0);
         due("32: OFF 13", x.lots(1, -1, 0), 1);
         due("32: OFF 22, by a z with its sign's bit", x.lots(1, 1000, 0), 3);
+        due("32: OFF 59, 24, 38", x.lots(3, 123456789, 0), 6);
+        due("32: twenty weeks", x.lots(20, -987654321, 0), 31);
         due("32: none is paid", x.lots(20, 1000, 1), 0);
         due("32: nothing changes", x.worker(0, 3) * 1000 + x.worker(0, 2), 30127);
+        // OFF 63 and 98: he is IN on one WEEKDAY alone, and has it from the other if he is DUE on the first.
+        PaidInDays paid = Checks.told("ww9000;wm0000;");
+        due("32: never long enough", paid.lots(1, 2, 1), 0);
+        paid.days(3);
+        due("32: DUE is as it is now", paid.lots(1, 2, 1), 1);
         due("32: nobody", new PaidInDays().lots(20, 5, 0), 0);
         due("32: lots(0, 0, 2)", x.lots(0, 0, 2), -4);
         due("32: lots(21, 0, 2)", x.lots(21, 0, 2), -6);
