@@ -1,4 +1,8 @@
-/** At least one method for each promise; what is due was worked out by hand from the document. */
+/**
+ * At least one method for each promise. What is due was worked out by hand from the document, but for the rows marked
+ * "by search": those were looked for with the class, and PlainModel answers the same; and the sums of lots over several
+ * weeks, which a script of a few lines reckoned.
+ */
 public final class PromisesTest {
     private static final Checks CHECKS = new Checks();
     private static final long REFUSED = 4000000000000000000L;
@@ -408,6 +412,7 @@ public final class PromisesTest {
         due("14: one wage", Checks.told("wf0000;wm0001;").still(), 1);
         PaidInDays x = Checks.told("ww0003;wb2064;");
         due("14: for ever", x.still(), -9);
+        // By search.
         PaidInDays late = Checks.told("wb4092;wh6075;wm9125;");
         due("14: the last wage on the 61st DAY", late.still(), -9);
         late.days(1);
@@ -534,6 +539,7 @@ public final class PromisesTest {
         due("22: OFF stays", x.worker(0, 2), 0);
         due("22: both", Checks.told("wm0000;wm0000;t019;t119;").fewest(1), 3);
         due("22: one of them", Checks.told("wm0000;wm0000;t119;").fewest(1), 2);
+        // By search: each of the three alone would do.
         due("22: of several the least", Checks.told("wm8104;wf7075;ww3018;t016;t116;").fewest(10), 1);
         due("22: fallen already", Checks.told("wm0000;t020;").fewest(0), -9);
         due("22: fallen already, later too", Checks.told("wm0127;t020;").fewest(20), -9);
@@ -579,6 +585,7 @@ public final class PromisesTest {
         due("25: OFF stays", taker.worker(0, 2), 0);
         // The first's: 0, 0, 1, -2 for 00, 01, 10, 11; the other's: 3, 1, 0, 1.
         due("25: none", Checks.told("wt0040;wb2096;wh7047;").two(0, 1, 3), -9);
+        // By search.
         due("25: both take", Checks.told("ww1116;ww1010;wh0016;").two(0, 1, 3), 0);
         due("25: two(0, 0, -1)", x.two(0, 0, -1), -1);
         due("25: two(0, 2, -1)", x.two(0, 2, -1), -1);
