@@ -128,11 +128,14 @@ final class Calls {
         return this;
     }
 
-    /** It answers so, and nothing changes at all. */
+    /** It answers so, whatever was thought before, and nothing changes at all. */
     Calls asked(String call, long want) {
         PaidInDays with = again();
         PaidInDays without = again();
         checks.due(sentence + ": " + call, answer(with, call), want);
+        PaidInDays thinking = again();
+        answer(thinking, "then(60, 0)");
+        checks.due(sentence + ": " + call + " behind another thought", answer(thinking, call), want);
         checks.holds(sentence + ": no REFUSAL by " + call, Arrays.equals(refusals(with), refusals(without)));
         sameToTheLast(call, with, without);
         make(call);

@@ -225,6 +225,8 @@ public final class StateBoundariesTest {
         for (int kind = 0; kind < 6; kind++) {
             String he = "w" + KINDS.charAt(kind) + "0";
             of("FROM: -9, alone").works(he + "127;", 1).is("from(0, 0)", -9).is("from(0, 1)", -9);
+            Calls six = of("FROM: -9, of six").works("wm0003;".repeat(5) + he + "003;", 6).is("from(5, 0)", -9).is("from(5, 1)", -9);
+            six.is("frees(0, 5)", 35).is("from(5, 0)", 0).is("from(5, 1)", 5);
             of("FROM: -9, he has all").works(he + "127;wm0127;", 2).is("from(0, 0)", -9).is("from(0, 1)", -9);
             of("FROM: -9, none has one").works(he + "000;wm0000;wm0000;", 3).is("from(0, 0)", -9).is("from(0, 1)", -9);
             of("FROM: -9, the same ones").works(he + "042;wm0042;wm0008;", 3).is("from(0, 0)", -9).is("from(0, 1)", -9)

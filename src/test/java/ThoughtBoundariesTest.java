@@ -157,6 +157,9 @@ public final class ThoughtBoundariesTest {
         Calls last = of("the last WEEKDAY").works("wm0064;wm0096;wm0001;", 3).asked("strike(0)", 6).asked("strike(1)", 2);
         last.asked("strike(2)", 0).asked("strike(3)", 1).is("frees(2, 6)", 65).asked("strike(1)", 3).asked("strike(2)", 64);
         last.asked("strike(3)", 1).is("frees(2, 5)", 97).asked("strike(3)", 2);
+        of("COVER: only the first is IN").works("wm0000;wm0127;wm0127;", 3).asked("strike(2)", 0).is("frees(0, 6)", 64)
+            .asked("strike(2)", 64);
+        of("COVER: only the last is IN").works("wm0127;wm0127;wm0126;", 3).asked("strike(2)", 126);
         of("of several the least").works("wm0080;wm0080;wm0006;wm0006;", 4).asked("strike(0)", 1).asked("strike(1)", 2)
             .asked("strike(3)", 0);
     }
@@ -208,8 +211,13 @@ public final class ThoughtBoundariesTest {
         of("TRADE: WEEKDAYS 0 and 6").works("wm0001;wm0064;d06;t000;t105;", 5).asked("trade(0, 1, 1)", 6).asked("trade(1, 0, 1)", 60);
         of("TRADE: each has his, and not the other's").works("wm0002;wm0006;t105;", 3).asked("trade(0, 1, 1)", -9);
         of("TRADE: none to change").works("wm0127;wm0127;wm0000;t030;", 4).asked("trade(0, 1, 30)", -9).asked("trade(0, 2, 30)", -9);
-        // The third one is TIRED 30 whatever they do; of all three together it would be no other answer.
+        // A third one, TIRED 30, is IN on both DAYS whatever the two do.
         of("TRADE: of both together").works("wm0002;wm0004;wm0000;t105;t230;", 5).asked("trade(0, 1, 1)", 12);
+        // 13 as it is, 11 with the WEEKDAYS changed; but a foreman takes WEEKDAY 1 back on DAY 1, and it is 14.
+        of("TRADE: nobody is paid").works("wm0002;wm0008;t110;", 3).asked("trade(0, 1, 2)", 13);
+        of("TRADE: the one is paid").works("wf0002;wm0008;t110;", 3).asked("trade(0, 1, 2)", -9);
+        // By numbers the tired one comes first here, and is off before it is taken.
+        of("TRADE: the later one is paid").works("wm0008;wf0002;t010;", 3).asked("trade(1, 0, 2)", 13);
     }
 
     private static void turnOfSeveral() {
@@ -264,7 +272,11 @@ public final class ThoughtBoundariesTest {
         Calls even = of("TWO: as if 2 less, it is as good").works("wf0000;wm0004;", 2).asked("two(0, 1, 2)", 1);
         even.asked("two(1, 0, 2)", 10).asked("two(0, 1, 1)", 11);
         of("TWO: by another one alone, better by 1").works("wf0000;wm0004;t010;", 3).asked("two(0, 1, 2)", 1);
-        of("TWO: none").works("wt0040;wb2096;wh7047;", 3).asked("two(0, 1, 3)", -9);
+        // Off on DAY 2 as it is, he is TIRED 0 behind 3 DAYS if he is paid, else 1 and as if 1 below 0.
+        of("TWO: as if 2 less, it is better").works("wf0004;wm0008;", 2).asked("two(0, 1, 3)", 11).asked("two(1, 0, 3)", 11);
+        of("TWO: none").works("wt0040;wb2096;wh7047;", 3).asked("two(0, 1, 3)", -9).asked("two(1, 0, 3)", -9);
+        // By search.
+        of("TWO: none, the third is always paid").works("wb0009;wt7005;wb0096;t007;t103;t213;", 6).asked("two(0, 2, 6)", -9);
         of("TWO: (0 .. 30)").works("wm0000;wm0001;", 2).asked("two(0, 1, 30)", 11).refused("two(0, 1, 31)", -6)
             .refused("two(0, 1, -1)", -4).refused("two(1, 1, -1)", -1);
     }
@@ -290,6 +302,7 @@ public final class ThoughtBoundariesTest {
         }
         Calls most = of("MEAN: the greatest").works(six.toString(), 12).asked("mean(0)", 30).asked("mean(1)", 1);
         most.is("rests(5, 29)", 30).asked("mean(0)", 179).asked("mean(1)", 6).refused("mean(2)", -2).refused("mean(-1)", -2);
+        of("MEAN: of one").works("wm0000;t005;", 2).asked("mean(0)", 5).asked("mean(1)", 1);
         of("MEAN: 0").works("wm0000;".repeat(6), 6).asked("mean(0)", 0).asked("mean(1)", 1).is("rests(3, 1)", 0)
             .asked("mean(0)", 1).asked("mean(1)", 6);
     }
@@ -319,6 +332,13 @@ public final class ThoughtBoundariesTest {
         // OFF 63 and 98: he is IN on WEEKDAY 6 alone, on the 6th and the 13th DAY, and DUE behind 4.
         Calls due = of("LOTS: each from now").works("ww9000;wm0000;d03;", 3).asked("lots(1, 2, 1)", 1).works("t030;", 1);
         due.asked("lots(1, 2, 1)", 1);
+        due.asked("lots(2, 2, 0)", 15).asked("lots(2, 2, 1)", 3).asked("lots(20, 2, 0)", 102).asked("lots(20, 2, 1)", 28);
+        Calls more = of("LOTS: WAGES more").works("ww0000;wm0127;wm0127;d03;", 4).is("count(2)", 3).asked("lots(1, 11, 0)", 11);
+        more.asked("lots(1, 11, 1)", 3).asked("lots(2, 11, 0)", 27).asked("lots(2, 11, 1)", 5).asked("lots(20, 11, 0)", 166);
+        more.asked("lots(20, 11, 1)", 56);
+        Calls all = of("LOTS: all KINDS").works("ww0003;wh4012;wb2096;wt5127;wm3064;wf9000;d09;", 7).is("count(2)", 21);
+        all.asked("lots(20, greatest, 0)", 328).asked("lots(20, greatest, 1)", 538).asked("lots(20, least, 0)", 276);
+        all.asked("lots(20, least, 1)", 500).asked("lots(1, least, 1)", 23);
         of("LOTS: each from now, DUE 0").works("ww9000;wm0000;", 2).asked("lots(1, 2, 1)", 0);
     }
 }
