@@ -1,6 +1,7 @@
 /**
  * The boundaries of what there is: WEEKDAYS round, WORKERS, TIRED, DUE, WAGES, DAY, from whom a wage comes, THE IMAGE,
- * the ROW, the counts, the 512 calls. The sentence of the document stands with each; what is due was worked out by hand.
+ * the ROW, the counts, the 512 calls. The sentence of the document stands with each; what is due was worked out by hand,
+ * but for the WAGES of all 999 DAYS, which are the plain model's.
  */
 public final class StateBoundariesTest {
     private static final Checks CHECKS = new Checks();

@@ -1,7 +1,7 @@
 /**
  * The boundaries of what is thought: the least and the greatest n of each call, DAY past 999, "of several the least",
  * "less than else", "-9", nobody there, round over the week's end; asking changes nothing. What is due was worked out by
- * hand, but for the sums of lots, which a script of a few lines reckoned.
+ * hand, but for the rows marked "by search" and the sums of lots, which a script of its own reckoned.
  */
 public final class ThoughtBoundariesTest {
     private static final Checks CHECKS = new Checks();
