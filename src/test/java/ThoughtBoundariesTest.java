@@ -265,6 +265,9 @@ public final class ThoughtBoundariesTest {
         of("HOLIDAY: of several the least").works("wm0000;t005;", 2).asked("holiday(2, 0)", 1).asked("holiday(2, 1)", 4)
             .asked("holiday(0, 0)", 0).asked("holiday(0, 1)", 5);
         of("HOLIDAY: all have it already").works("wm0127;wm0127;t005;", 3).asked("holiday(1, 0)", 0).asked("holiday(1, 1)", 3);
+        // By search: without one they are TIRED 1 together; HOLIDAY does not ask that it be less than else.
+        of("HOLIDAY: the best, though none is better").works("wf0014;wf6113;t105;", 3).asked("workerThen(0, 11, 1)", 0)
+            .asked("workerThen(1, 11, 1)", 1).asked("holiday(11, 0)", 3).asked("holiday(11, 1)", 2);
     }
 
     private static void twoWhoHaveItNoBetter() {
